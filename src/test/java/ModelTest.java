@@ -66,9 +66,13 @@ public final class ModelTest {
         }
 
         int go() throws Exception {
+            if (number % 6 == 0) {
+                tellText("house", Texts.manyRooms(random));
+                tellText("house", Texts.manyDoors(random));
+            }
             int texts = 1 + random.nextInt(4);
             for (int i = 0; i < texts; i++) {
-                tellText("house", Texts.house(random, model, i == 0));
+                tellText("house", Texts.house(random, model, i == 0 && number % 6 > 0));
             }
             if (random.nextInt(3) > 0) {
                 tellText("law", Texts.law(random));
@@ -257,6 +261,26 @@ public final class ModelTest {
                 }
             }
             return spoil(r, space(r, String.join(";", lines)));
+        }
+
+        static String manyRooms(Random r) {
+            List<String> lines = new ArrayList<>(List.of("room out 1"));
+            String[] sorts = {"out", "stone", "carpet", "bed", "drain", "bed"};
+            while (lines.size() < 11) {
+                lines.add("room " + sorts[r.nextInt(6)] + " " + (1 + r.nextInt(99)));
+            }
+            lines.add("room bed 4");
+            return String.join(";", lines);
+        }
+
+        static String manyDoors(Random r) {
+            List<String> lines = new ArrayList<>();
+            for (int i = 1; i < 12; i++) {
+                lines.add("door " + i + " " + r.nextInt(i));
+            }
+            lines.add("person 0");
+            lines.add("person 11");
+            return String.join(";", lines);
         }
 
         static String number(Random r) {

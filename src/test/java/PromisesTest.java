@@ -129,6 +129,9 @@ public final class PromisesTest {
         undone();
         images();
         counts();
+        fullTape();
+        fullHouse();
+        leastNumbers();
         System.out.println(wrong == 0 ? "all promises hold" : wrong + " answers are not as due");
         if (wrong != 0) {
             System.exit(1);
@@ -1077,5 +1080,174 @@ public final class PromisesTest {
         due("acts", h.count(14), 4);
         due("count(15)", h.count(15), -1);
         due("count(-1)", h.count(-1), -1);
+    }
+
+    private static void fullTape() {
+        promise = 6;
+        SandHouse h = new SandHouse();
+        tape(h, "clog 5" + times(" ", 394, ""));
+        due("a text of 400 bytes", h.house(), 1);
+        wrongHouse("", times(" ", 399, "") + ";", 399);
+        wrongHouse("", "clog 5;" + times(" ", 393, ""), 400);
+        wrongHouse("", times("z", 400, ""), 0);
+        wrongHouse("", "clog " + times("1", 395, ""), 5);
+        wrongHouse("", "room bez 1", 5);
+        wrongHouse("", "room be" + "{ 1", 5);
+        wrongHouse("", "clo" + "` 1", 0);
+        wrongHouse("", "room zout 1", 5);
+        wrongHouse("", "room stonet 1", 5);
+        wrongHouse("", "room bout 1", 5);
+        wrongLaw("drop 1 if " + times("1+", 195, ""), 400);
+        tape(h, "drop 1 if 0<" + times("1+", 193, "") + "  ");
+        refused("a law of 400 bytes", ILLEGAL, h::law);
+        due("its fault", h.fault(), 400);
+        tape(h, "drop 1 if 194<" + times("1+", 192, "") + " 2");
+        due("a law of 400 bytes that is right", h.law(), 1);
+        tell(h, "room bed 1;person 0");
+        due("194 is not below 194", h.rule(0, 0, 1), 0);
+        rule(h, "drop 1 if 193<" + times("1+", 192, "") + " 2");
+        due("193 is below 194", h.rule(0, 0, 1), 1);
+        // what stands on the tape behind its end does not count
+        tape(h, "clog 12;clog 1");
+        h.end(6);
+        h.house();
+        due("clog of the cut text", h.count(11), 1);
+        tape(h, "clogs");
+        h.end(4);
+        refused("a cut word", ILLEGAL, h::house);
+        due("fault of a cut word", h.fault(), 4);
+    }
+
+    /** Twelve rooms, twenty doors, eight people: no call may look behind the rows' ends. */
+    private static void fullHouse() {
+        SandHouse h = houseOf("room out 1;" + times("room bed 2", 10, ";") + ";room drain 3");
+        StringBuilder doors = new StringBuilder("door 0 1");
+        for (int i = 1; i < 11; i++) {
+            doors.append(";door ").append(i).append(' ').append(i + 1);
+        }
+        tell(h, doors.toString());
+        tell(h, times("door 0 11", 9, ";"));
+        tell(h, times("person 0 1 2 3 4 5 6 7 8 9 10 11", 8, ";"));
+        rule(h, "drop 100;sweep 50");
+        for (int person = 0; person < 8; person++) {
+            tell(h, "load " + person + " " + (10 + person) + (person > 0 ? "" : ";sand 11 7 100;sand 10 7 4"));
+        }
+        promise = 49;
+        int[] due = {12, 20, 8, 12, 2, 0, 104, 108, 0, 212, 0, 1000, 0, 0, 0};
+        for (int i = 0; i < due.length; i++) {
+            due("count(" + i + ") of the full house", h.count(i), due[i]);
+        }
+        promise = 7;
+        due("all are out", h.room(0, 4), 255);
+        due("doors of the last", h.room(11, 5), 1 | 1 << 10);
+        promise = 9;
+        due("roams of the last", h.person(7, 6), 4095);
+        promise = 19;
+        due("beds in trial", h.trial(1, 0), 112);
+        due("inside in trial", h.trial(1, 1), 202);
+        due("loads in trial", h.trial(1, 2), 0);
+        due("gone in trial", h.trial(1, 3), 10);
+        promise = 21;
+        due("stand in the full house", h.stand(100, 1, true), 1);
+        promise = 22;
+        due("two in the full house", h.two(50, 1), 3);
+        promise = 23;
+        h.tool(1, 100);
+        due("keepers of all", h.keepers(4, 1), 255);
+        due("keepers of the heaviest", h.keepers(95, 1), 1 << 7);
+        h.undo();
+        promise = 24;
+        due("chores of the full house", h.chores(52, true), 1 << 10 | 1 << 11);
+        due("chores but one", h.chores(54, false), 3);
+        promise = 25;
+        due("often in the full house", h.often(112, 24), 24);
+        promise = 26;
+        due("when in the full house", h.when(112), 1);
+        promise = 28;
+        due("fades in the full house", h.fades(26), 2);
+        promise = 29;
+        due("later in the full house", h.later(11, 0), 0);
+        promise = 30;
+        due("towel in the full house", h.towel(7, 11, 2), 0);
+        promise = 31;
+        due("towelled in the full house", h.towelled(7, 24), 0);
+        promise = 37;
+        due("blame in the full house", h.blame(), 7);
+        promise = 38;
+        due("itch in the full house", h.itch(3), 1 << 10);
+        promise = 39;
+        due("ways in the full house", h.ways(11, 5), 6);
+        promise = 42;
+        h.rounds(1);
+        due("heels in the full house", h.heels(2), 255);
+        due("heels in the last room", h.heels(1 << 11), 0);
+        promise = 34;
+        due("carries in the full house", h.carries(7, true), 0);
+        promise = 41;
+        due("noon in the full house", noon(h, told(11, 11)), 255);
+        promise = 14;
+        due("sweep in the full house", h.sweep(11), 45);
+        promise = 15;
+        due("beat in the full house", h.beat(7), 0);
+        promise = 13;
+        h.rounds(100);
+        due("books of the full house", h.count(6) + h.count(7) + h.count(8), h.count(9));
+    }
+
+    private static void leastNumbers() {
+        SandHouse h = houseOf("room bed 1;person 0;person 0;load 0 0;sand 0 0 0;wet 0 0;sand 0 1 1", "sweep 100 if not wet and load < 1");
+        promise = 4;
+        due("told nothing", h.count(9), 1);
+        due("not wet", h.person(0, 3), 0);
+        promise = 36;
+        due("share of one grain", h.share(0, 1), 10000);
+        due("share in one grain", h.share(0, 0), 0);
+        promise = 37;
+        due("blame of one grain", h.blame(), 1);
+        promise = 14;
+        h.soak(0, 3);
+        tell(h, "load 0 5");
+        due("sweeping knows no wet one", h.room(0, 6), 100);
+        due("a grain is swept", h.sweep(0), 1);
+        promise = 20;
+        due("worth of no round", h.worth(0, 1, 0), 0);
+        promise = 21;
+        due("stand of the least part", h.stand(1, 0, true), 0);
+        due("stand of the greatest part", h.stand(100, 24, true), 0);
+        promise = 22;
+        due("two of the least part", h.two(1, 0), -1);
+        tell(h, "room bed 1");
+        due("two of two", h.two(1, 0), 3);
+        h.tool(0, 1);
+        due("two of one without", h.two(1, 0), -1);
+        h.undo();
+        promise = 24;
+        due("chores of 0", h.chores(0, true), 0);
+        promise = 28;
+        due("fades to 0", h.fades(0), 0);
+        promise = 31;
+        refused("towelled(-1, 0)", INDEX, () -> h.towelled(-1, 0));
+        promise = 40;
+        refused("cross(-1, 0)", INDEX, () -> h.cross(-1, 0));
+        refused("cross(2, 2)", INDEX, () -> h.cross(2, 2));
+        promise = 43;
+        h.rounds(1);
+        due("nothing fell: no row", h.count(13), 0);
+        promise = 13;
+        SandHouse least = houseOf("room bed 1;person 0;load 0 200;tool 0 1", "");
+        least.rounds(1);
+        due("a tool of 1 takes", least.count(8), 2);
+        promise = 32;
+        // the third draw of seed 8 alone of the eight is 94; the first of seed 9 is 72, of the eight at most 64
+        SandHouse eighth = houseOf("room stone 1;room bed 1;person 0;person 0;person 1;load 2 100;tool 0 9;tool 1 50;keeps 2 94", "drop 50");
+        due("span by the eighth", eighth.span(1, true), 50);
+        due("span by others", eighth.span(1, false), 25);
+        SandHouse ninth = houseOf("room bed 1;person 0;load 0 100;tool 0 50;keeps 0 65", "drop 50");
+        due("no ninth", ninth.span(1, true), 25);
+        promise = 37;
+        SandHouse beds = houseOf("room bed 1;room stone 1;room bed 1;person 1;person 1;sand 0 0 3;sand 2 0 3;sand 2 1 5;sand 0 1 1;sand 1 1 99");
+        due("blame of both alike", beds.blame(), 0);
+        tell(beds, "sand 0 1 1");
+        due("blame of one more", beds.blame(), 1);
     }
 }
