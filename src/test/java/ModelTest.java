@@ -226,7 +226,7 @@ public final class ModelTest {
                 int more = 1 + r.nextInt(5);
                 for (int i = 0; i < more; i++) {
                     String[] sorts = {"out", "stone", "carpet", "bed", "drain", "bed"};
-                    lines.add("room " + (i == 0 && first ? "out" : sorts[r.nextInt(6)]) + " " + (1 + r.nextInt(9)));
+                    lines.add("room " + (i == 0 && first && r.nextInt(3) > 0 ? "out" : sorts[r.nextInt(6)]) + " " + (1 + r.nextInt(9)));
                     rooms++;
                     if (rooms > 1 && r.nextInt(5) > 0) {
                         int to = r.nextInt(rooms - 1);

@@ -233,6 +233,8 @@ public final class PromisesTest {
         wrongHouse("", "room out ", 9);
         wrongHouse("", "room out;", 8);
         wrongHouse("", "room 1", 5);
+        wrongHouse("", "room bed 100", 9);
+        wrongHouse("", "room bed 0", 9);
         wrongHouse("", "room outs 1", 5);
         wrongHouse("", "room out 000001", 9);
         wrongHouse("", "clog -1", 5);
@@ -1242,8 +1244,25 @@ public final class PromisesTest {
         SandHouse eighth = houseOf("room stone 1;room bed 1;person 0;person 0;person 1;load 2 100;tool 0 9;tool 1 50;keeps 2 94", "drop 50");
         due("span by the eighth", eighth.span(1, true), 50);
         due("span by others", eighth.span(1, false), 25);
+        // the third draw of seed 1 alone is below 14
+        eighth.keep(2, 14);
+        due("span by the first", eighth.span(1, false), 25);
+        due("span by all others", eighth.span(1, true), 50);
         SandHouse ninth = houseOf("room bed 1;person 0;load 0 100;tool 0 50;keeps 0 65", "drop 50");
         due("no ninth", ninth.span(1, true), 25);
+        promise = 24;
+        SandHouse first = houseOf("room bed 3;room bed 4;person 0;sand 0 0 10;sand 1 0 10");
+        due("chores in the first room", first.chores(15, true), 1);
+        due("minutes of the first room", first.chores(15, false), 3);
+        promise = 28;
+        due("fades in the first room too", first.fades(10), 1);
+        promise = 30;
+        refused("towel(1, 0, 0)", INDEX, () -> first.towel(1, 0, 0));
+        refused("towel(-1, 0, 0)", INDEX, () -> first.towel(-1, 0, 0));
+        promise = 29;
+        // let fall one step behind another: sweeping between, then more falls
+        SandHouse again = houseOf("room bed 1;person 0;load 0 1000", "drop 10;sweep 50 if here < 200");
+        due("later while it can be swept", again.later(0, 4), 2);
         promise = 37;
         SandHouse beds = houseOf("room bed 1;room stone 1;room bed 1;person 1;person 1;sand 0 0 3;sand 2 0 3;sand 2 1 5;sand 0 1 1;sand 1 1 99");
         due("blame of both alike", beds.blame(), 0);
