@@ -1,111 +1,5 @@
-import java.util.NoSuchElementException;
-
 /** For each promise answers that were worked out by hand from the document: ordinary, at edges, and refusals. */
-public final class PromisesTest {
-    private static final Class<? extends Exception> ILLEGAL = IllegalArgumentException.class;
-    private static final Class<? extends Exception> INDEX = IndexOutOfBoundsException.class;
-    private static final Class<? extends Exception> ELEMENT = NoSuchElementException.class;
-    private static final Class<? extends Exception> UNSUPPORTED = UnsupportedOperationException.class;
-
-    /** One who goes out, stone, bed, stone and lets half of 200 grains fall at each step. */
-    private static final String WALK = "room out 1;room stone 2;room bed 3;door 0 1;door 1 2;person 0 1 2 1;load 0 200";
-    private static final String HALVES = "drop 50;sweep 30";
-
-    private static int wrong = 0;
-    private static int promise = 0;
-
-    private interface Call {
-        int go();
-    }
-
-    private static void due(String what, int got, int want) {
-        if (got != want) {
-            wrong++;
-            System.out.println("promise " + promise + ": " + what + " answered " + got + ", due is " + want);
-        }
-    }
-
-    private static void due(String what, boolean got, boolean want) {
-        due(what, got ? 1 : 0, want ? 1 : 0);
-    }
-
-    private static void refused(String what, Class<? extends Exception> want, Call call) {
-        try {
-            int got = call.go();
-            wrong++;
-            System.out.println("promise " + promise + ": " + what + " answered " + got + ", due is " + want);
-        } catch (RuntimeException e) {
-            if (e.getClass() != want) {
-                wrong++;
-                System.out.println("promise " + promise + ": " + what + " threw " + e + ", due is " + want);
-            }
-        }
-    }
-
-    private static void tape(SandHouse h, String text) {
-        h.end(0);
-        for (int i = 0; i < text.length(); i += 20) {
-            int[] five = new int[5];
-            for (int j = 0; j < 20; j++) {
-                five[j / 4] = five[j / 4] << 8 | (i + j < text.length() ? text.charAt(i + j) & 255 : 0);
-            }
-            h.feed(five[0], five[1], five[2], five[3], five[4]);
-        }
-        h.end(text.length());
-    }
-
-    private static SandHouse houseOf(String text) {
-        SandHouse h = new SandHouse();
-        tell(h, text);
-        return h;
-    }
-
-    private static SandHouse houseOf(String text, String law) {
-        SandHouse h = houseOf(text);
-        rule(h, law);
-        return h;
-    }
-
-    private static void tell(SandHouse h, String text) {
-        tape(h, text);
-        h.house();
-    }
-
-    private static void rule(SandHouse h, String law) {
-        tape(h, law);
-        h.law();
-    }
-
-    private static void wrongHouse(String ahead, String text, int at) {
-        SandHouse h = new SandHouse();
-        if (!ahead.isEmpty()) {
-            tell(h, ahead);
-        }
-        int rooms = h.count(0);
-        tape(h, text);
-        refused("house of '" + text + "'", ILLEGAL, h::house);
-        due("fault of '" + text + "'", h.fault(), at);
-        due("rooms behind '" + text + "'", h.count(0), rooms);
-        due("the tape behind '" + text + "'", h.end(1), false);
-    }
-
-    private static void wrongLaw(String text, int at) {
-        SandHouse h = new SandHouse();
-        tape(h, text);
-        refused("law of '" + text + "'", ILLEGAL, h::law);
-        due("fault of '" + text + "'", h.fault(), at);
-        due("lines behind '" + text + "'", h.count(4), -1);
-        due("the tape behind '" + text + "'", h.end(1), false);
-    }
-
-    private static String times(String s, int n, String between) {
-        StringBuilder out = new StringBuilder();
-        for (int i = 0; i < n; i++) {
-            out.append(i > 0 ? between : "").append(s);
-        }
-        return out.toString();
-    }
-
+public final class PromisesTest extends Due {
     public static void main(String[] args) {
         newObjectAndTape();
         houseTexts();
@@ -132,10 +26,7 @@ public final class PromisesTest {
         fullTape();
         fullHouse();
         leastNumbers();
-        System.out.println(wrong == 0 ? "all promises hold" : wrong + " answers are not as due");
-        if (wrong != 0) {
-            System.exit(1);
-        }
+        finish();
     }
 
     private static void newObjectAndTape() {
@@ -892,15 +783,6 @@ public final class PromisesTest {
         refused("noon of four bytes", ILLEGAL, h::noon);
         tape(h, told(0, 0) + told(0, 65535));
         refused("noon at 65535", ILLEGAL, h::noon);
-    }
-
-    private static String told(int room, int round) {
-        return "" + (char) (97 + room) + (char) (round >> 8) + (char) (round & 255);
-    }
-
-    private static int noon(SandHouse h, String bytes) {
-        tape(h, bytes);
-        return h.noon();
     }
 
     private static void logs() {
