@@ -226,6 +226,16 @@ abstract class Due {
         due("the tape behind '" + text + "'", h.end(1), false);
     }
 
+    /** A text of THE HOUSE that is wrong where a ^ stands in it (the ^ itself is left out). */
+    static void wrongAt(String ahead, String marked) {
+        wrongHouse(ahead, marked.replace("^", ""), marked.indexOf('^'));
+    }
+
+    /** A text of THE LAW that is wrong where a ^ stands in it (the ^ itself is left out). */
+    static void wrongLawAt(String marked) {
+        wrongLaw(marked.replace("^", ""), marked.indexOf('^'));
+    }
+
     static String times(String s, int n, String between) {
         StringBuilder out = new StringBuilder();
         for (int i = 0; i < n; i++) {
