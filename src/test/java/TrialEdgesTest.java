@@ -440,8 +440,8 @@ public final class TrialEdgesTest extends Due {
         // in the bed 50 fall behind ROUND 2 alone, so a towel there comes too late by 3
         due("the bed comes too late", h.towel(0, 2, 3), 0);
         rule(h, "drop 50 if bed and round > 2");
-        due("alike: 1 by 4", h.towel(0, 1, 4), 37);
-        due("alike: 2 by 4", h.towel(0, 2, 4), 25);
+        due("beaten out twice ahead of the fall", h.towel(0, 1, 4), 38);
+        due("beaten out once ahead of the fall", h.towel(0, 2, 4), 25);
         due("the greater of both", h.towelled(0, 4), 1);
         SandHouse below = houseOf("room stone 1;room bed 1;room bed 1;door 1 2;person 2 1;load 0 100", "drop 60 if load < 60");
         due("all below 0: towel of 1", below.towel(0, 1, 2), -30);
