@@ -15,6 +15,7 @@ public final class MemoryEdgesTest extends Due {
         heels();
         led();
         undone();
+        rowsUndone();
         twelveActs();
         forgotten();
         image();
@@ -38,10 +39,12 @@ public final class MemoryEdgesTest extends Due {
         due("alike: the least", h.carries(0, false), 0);
         due("another one's, without", h.carries(1, false), -1);
         due("another one's, of none", h.carries(1, true), 0);
+        String before = state(h);
         for (int none : new int[] {-1, 3, LEAST, GREATEST}) {
-            refusedWhole("carries(" + none + ", true)", INDEX, h, () -> h.carries(none, true));
+            refused("carries(" + none + ", true)", INDEX, () -> h.carries(none, true));
             refused("carries(" + none + ", false)", INDEX, () -> h.carries(none, false));
         }
+        same("all behind refusals", before, state(h));
         SandHouse one = houseOf("room stone 1;person 0;person 0;load 1 1");
         due("one grain", one.carries(1, false), 1);
         due("of one", one.carries(1, true), 1);
@@ -62,9 +65,11 @@ public final class MemoryEdgesTest extends Due {
         tell(h, "sand 1 2 1");
         due("one more", h.whose(1), 2);
         due("the other ROOM still without", h.whose(0), -1);
+        String before = state(h);
         for (int none : new int[] {-1, 2, LEAST, GREATEST}) {
-            refusedWhole("whose(" + none + ")", INDEX, h, () -> h.whose(none));
+            refused("whose(" + none + ")", INDEX, () -> h.whose(none));
         }
+        same("all behind refusals", before, state(h));
     }
 
     private static void share() {
@@ -88,10 +93,12 @@ public final class MemoryEdgesTest extends Due {
         }
         due("all of 165 times 9999", many.share(0, 0), 10000);
         due("as many are there", many.sand(0, 0), 165 * 9999);
+        String before = state(h);
         for (int none : new int[] {-1, 2, LEAST, GREATEST}) {
-            refusedWhole("share(" + none + ", 0)", INDEX, h, () -> h.share(none, 0));
+            refused("share(" + none + ", 0)", INDEX, () -> h.share(none, 0));
             refused("share(0, " + none + ")", INDEX, () -> h.share(0, none));
         }
+        same("all behind refusals", before, state(h));
     }
 
     private static void blame() {
@@ -108,6 +115,14 @@ public final class MemoryEdgesTest extends Due {
         tell(h, "sand 1 1 1;sand 1 0 1;sand 3 0 2");
         due("0 has three in both", h.blame(), 0);
         due("no bed", houseOf("room out 1;person 0;sand 0 0 5").blame(), -1);
+        SandHouse eight = houseOf("room bed 1;room stone 1;" + times("person 0", 8, ";"));
+        tell(eight, "sand 1 0 99;sand 0 7 1");
+        due("the eighth", eight.blame(), 7);
+        SandHouse full = houseOf(times("room bed 1", 12, ";"));
+        tell(full, times("person 0", 8, ";") + ";sand 11 7 2;sand 0 0 1;sand 5 0 1");
+        due("of eight in twelve beds the least", full.blame(), 0);
+        tell(full, "sand 10 7 1");
+        due("of eight in twelve beds the eighth", full.blame(), 7);
     }
 
     private static void itch() {
@@ -148,15 +163,17 @@ public final class MemoryEdgesTest extends Due {
     private static void cross() {
         sentence(40, "IllegalArgumentException: both are one");
         SandHouse h = houseOf("room out 1;room bed 1;door 0 1;person 0 1;person 1 0;person 0 0 1", "");
+        String before = state(h);
         for (int person = 0; person < 3; person++) {
             int one = person;
-            refusedWhole("cross(" + one + ", " + one + ")", ILLEGAL, h, () -> h.cross(one, one));
+            refused("cross(" + one + ", " + one + ")", ILLEGAL, () -> h.cross(one, one));
         }
         for (int none : new int[] {-1, 3, LEAST, GREATEST}) {
-            refusedWhole("cross(" + none + ", 0)", INDEX, h, () -> h.cross(none, 0));
+            refused("cross(" + none + ", 0)", INDEX, () -> h.cross(none, 0));
             refused("cross(0, " + none + ")", INDEX, () -> h.cross(0, none));
             refused("cross(" + none + ", " + none + ")", INDEX, () -> h.cross(none, none));
         }
+        same("all behind refusals", before, state(h));
         sentence(40, "the first ROUND (from now's on, within 144 more) at which both are in one ROOM; none");
         due("never", h.cross(0, 1), -1);
         due("never the other way", h.cross(1, 0), -1);
@@ -261,11 +278,13 @@ public final class MemoryEdgesTest extends Due {
                 due("log(" + ago + ", " + what + ")", h.log(ago, what), -1);
             }
         }
+        String before = state(h);
         for (int what : new int[] {-1, 5, LEAST, GREATEST}) {
-            refusedWhole("log(0, " + what + ")", ELEMENT, h, () -> h.log(0, what));
+            refused("log(0, " + what + ")", ELEMENT, () -> h.log(0, what));
             refused("log(4, " + what + ")", ELEMENT, () -> h.log(4, what));
             refused("log(-1, " + what + ")", ELEMENT, () -> h.log(-1, what));
         }
+        same("all behind refusals", before, state(h));
         sentence(43, "times that grains fell by (d) (above 0)");
         h.rounds(1);
         due("0 let 8 fall, 1 none", h.count(13), 5);
@@ -379,30 +398,51 @@ public final class MemoryEdgesTest extends Due {
         due("no farther than THE LOG", stays.led(0, 81), -1);
     }
 
-    private static void undone() {
-        sentence(46, "the latest ACT, or ROUNDS of one call: all is as ahead of it");
+    private static SandHouse busy() {
         SandHouse h = houseOf("room out 3;room bed 2;door 0 1;person 0 1;person 1;load 0 300;sand 1 1 90;tool 1 20;keeps 1 40;wet 1 3;room drain 1;sand 2 0 99",
             "bring 5;drop 30;pick 8;sweep 50");
         h.rounds(2);
-        String[] before = new String[7];
-        before[0] = state(h);
-        h.sweep(1);
-        before[1] = state(h);
-        h.beat(0);
-        before[2] = state(h);
-        h.tool(1, 77);
-        before[3] = state(h);
-        h.keep(1, 0);
-        before[4] = state(h);
-        h.soak(0, 9);
-        before[5] = state(h);
-        h.rounds(100);
-        before[6] = state(h);
-        due("seven acts", h.count(14), 7);
-        for (int i = 5; i >= 0; i--) {
-            due("undo " + i, h.undo(), true);
-            same("all as ahead of act " + i, before[i], state(h));
+        return h;
+    }
+
+    private static void undoneAct(String act, boolean changes, Ask ask) {
+        SandHouse h = busy();
+        String before = state(h);
+        ask.of(h, 0);
+        due(act + " is remembered", h.count(14), 2);
+        if (changes) {
+            due(act + " changes something", before.equals(state(h)), false);
         }
+        due("undo of " + act, h.undo(), true);
+        same("all as ahead of " + act, before, state(h));
+    }
+
+    private static void undone() {
+        sentence(46, "the latest ACT, or ROUNDS of one call: all is as ahead of it");
+        undoneAct("sweep", true, (h, n) -> h.sweep(1));
+        undoneAct("beat", true, (h, n) -> h.beat(0));
+        undoneAct("tool", true, (h, n) -> h.tool(1, 77));
+        undoneAct("tool taken away", true, (h, n) -> h.tool(1, 0));
+        undoneAct("keep", true, (h, n) -> h.keep(1, 0));
+        undoneAct("soak", true, (h, n) -> h.soak(0, 9));
+        undoneAct("one ROUND", true, (h, n) -> h.rounds(1));
+        undoneAct("a hundred ROUNDS", true, (h, n) -> h.rounds(100));
+        undoneAct("keep of the same", false, (h, n) -> h.keep(1, 40));
+        undoneAct("a SEED told behind an act", true, (h, n) -> h.beat(0) + h.seed(4711));
+        SandHouse h = busy();
+        h.sweep(1);
+        String before = state(h);
+        h.beat(0);
+        h.tool(1, 77);
+        h.keep(1, 0);
+        h.soak(0, 9);
+        h.rounds(100);
+        for (int i = 6; i >= 2; i--) {
+            due("undo from " + (i + 1) + " acts", h.undo(), true);
+            due("acts left", h.count(14), i);
+        }
+        same("all as ahead of five acts", before, state(h));
+        due("undo of sweeping", h.undo(), true);
         due("undo of the first ROUNDS", h.undo(), true);
         due("ROUND 0", h.count(5), 0);
         due("rows 0", h.count(13), 0);
@@ -419,6 +459,43 @@ public final class MemoryEdgesTest extends Due {
         due("the TAPE", h.end(20), true);
         due("back", h.back(), true);
         due("THE IMAGE is of behind the act", h.person(0, 2), 1);
+    }
+
+    /** Of a house in which grains fell in each ROUND ahead of this one, and in none since. */
+    private static void rowsOf(SandHouse h, String when, int round) {
+        due("rows " + when, h.count(13), Math.min(round, 80));
+        for (int ago = 0; ago <= 80; ago++) {
+            due("row " + ago + " " + when, h.log(ago, 0), ago < 80 && ago < round ? round - 1 - ago : -1);
+        }
+    }
+
+    private static void rowsUndone() {
+        sentence(46, "all is as ahead of it: THE LOG, too, however many of its 80 rows were written anew");
+        for (int ahead : new int[] {0, 1, 40, 79, 80, 81, 100}) {
+            SandHouse h = houseOf("room out 1;person 0", "bring 10;drop 100");
+            if (ahead > 0) {
+                h.rounds(ahead);
+            }
+            h.image();
+            h.rounds(100);
+            h.undo();
+            rowsOf(h, "undone behind " + ahead, ahead);
+            h.rounds(79);
+            rowsOf(h, "gone on from " + ahead, ahead + 79);
+            h.back();
+            rowsOf(h, "of THE IMAGE behind " + ahead, ahead);
+        }
+        SandHouse h = houseOf("room out 1;person 0", "bring 10;drop 100");
+        h.rounds(90);
+        for (int i = 0; i < 12; i++) {
+            h.rounds(30);
+        }
+        for (int i = 11; i >= 0; i--) {
+            h.undo();
+            due("the latest row undone to " + i, h.log(0, 0), 89 + 30 * i);
+            due("the first row undone to " + i, h.log(79, 0), 10 + 30 * i);
+        }
+        rowsOf(h, "behind twelve undone", 90);
     }
 
     private static void twelveActs() {

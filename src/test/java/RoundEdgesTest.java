@@ -30,13 +30,15 @@ public final class RoundEdgesTest extends Due {
 
     private static void whatOfARoom() {
         sentence(7, "NoSuchElementException: another what");
-        SandHouse h = houseOf("room drain 42;room bed 7;door 0 1;person 0;person 1;person 0;sand 0 1 9;sand 0 2 8;tool 0 33");
+        Make make = () -> houseOf("room drain 42;room bed 7;door 0 1;person 0;person 1;person 0;sand 0 1 9;sand 0 2 8;tool 0 33");
+        SandHouse h = make.one();
         int[] due = {4, 42, 33, 17, 5, 2, 50};
         for (int what = 0; what <= 6; what++) {
             due("room(0, " + what + ")", h.room(0, what), due[what]);
         }
         for (int what : new int[] {-1, 7, LEAST, GREATEST}) {
-            refusedWhole("room(0, " + what + ")", ELEMENT, h, () -> h.room(0, what));
+            SandHouse asked = make.one();
+            refusedWhole("room(0, " + what + ")", ELEMENT, asked, () -> asked.room(0, what));
         }
         sentence(7, "Of several exceptions the one told first is thrown");
         refused("room(2, 7)", INDEX, () -> h.room(2, 7));
@@ -62,12 +64,14 @@ public final class RoundEdgesTest extends Due {
 
     private static void whatOfARule() {
         sentence(12, "NoSuchElementException: another what");
-        SandHouse h = houseOf("room out 1;room bed 1;person 0;person 1", "bring 1;drop 2;pick 3;sweep 4");
+        Make make = () -> houseOf("room out 1;room bed 1;person 0;person 1", "bring 1;drop 2;pick 3;sweep 4");
+        SandHouse h = make.one();
         for (int what = 0; what <= 2; what++) {
             due("rule(1, 1, " + what + ")", h.rule(1, 1, what), what + 1);
         }
         for (int what : new int[] {-1, 3, LEAST, GREATEST}) {
-            refusedWhole("rule(1, 1, " + what + ")", ELEMENT, h, () -> h.rule(1, 1, what));
+            SandHouse asked = make.one();
+            refusedWhole("rule(1, 1, " + what + ")", ELEMENT, asked, () -> asked.rule(1, 1, what));
         }
         sentence(12, "Of several exceptions the one told first is thrown");
         for (int none : new int[] {-1, 2}) {
@@ -89,9 +93,10 @@ public final class RoundEdgesTest extends Due {
         sentence(8, "Grains of a PERSON's in a ROOM");
         due("sand(0, 1)", h.sand(0, 1), 30);
         due("sand(0, 0)", h.sand(0, 0), 0);
+        String before = state(h);
         for (int none : new int[] {-1, 2, LEAST, GREATEST}) {
             promise = 8;
-            refusedWhole("sand(" + none + ", 0)", INDEX, h, () -> h.sand(none, 0));
+            refused("sand(" + none + ", 0)", INDEX, () -> h.sand(none, 0));
             refused("sand(0, " + none + ")", INDEX, () -> h.sand(0, none));
             promise = 10;
             refused("load(" + none + ", 0)", INDEX, () -> h.load(none, 0));
@@ -99,6 +104,7 @@ public final class RoundEdgesTest extends Due {
             promise = 11;
             refused("habit(" + none + ", 0)", INDEX, () -> h.habit(none, 0));
         }
+        same("all behind refusals", before, state(h));
     }
 
     private static void numbersOfRounds() {
@@ -181,19 +187,6 @@ public final class RoundEdgesTest extends Due {
         due("GONE of two by themselves", each.count(8), 2);
         due("own of two", each.load(0, 0), 2);
         due("the other's of two", each.load(0, 1), 2);
-    }
-
-    private static int drawOf(int seed) {
-        return (int) ((1103515245L * seed + 12345 & 0xffffffffL) >> 16 & 32767);
-    }
-
-    private static int seedWith(int draw) {
-        for (int seed = 1; seed < 1000000; seed++) {
-            if (drawOf(seed) % 100 == draw) {
-                return seed;
-            }
-        }
-        return 0;
     }
 
     private static void kept(int seed, int keeps, boolean want) {
@@ -509,7 +502,7 @@ public final class RoundEdgesTest extends Due {
     private static void books() {
         sentence(49, "BOOKS: grains told and brought are those in ROOMS, LOADS, GONE");
         SandHouse h = houseOf("room out 3;room drain 2;room bed 4;door 0 1;door 1 2;person 0 1 2 1;person 1 0;person 2;load 0 9990;load 0 99;sand 1 2 77;tool 2 31");
-        for (int i = 0; i < 30; i++) {
+        for (int i = 0; i < 24; i++) {
             h.rounds(1 + i % 3);
             h.sweep(i % 3);
             h.beat(i % 3);
@@ -520,6 +513,6 @@ public final class RoundEdgesTest extends Due {
             due("in LOADS behind " + i, h.count(7), h.person(0, 1) + h.person(1, 1) + h.person(2, 1));
             due("DRAINED is GONE, too", h.count(10) <= h.count(8), true);
         }
-        due("MINUTES", h.count(12), 10 * (3 + 2 + 4));
+        due("MINUTES", h.count(12), 8 * (3 + 2 + 4));
     }
 }

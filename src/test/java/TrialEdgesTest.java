@@ -208,6 +208,12 @@ public final class TrialEdgesTest extends Due {
         due("nobody keeps", keeps.keepers(30, 1), 0);
         due("one has to keep", keeps.keepers(29, 1), 1);
         due("all have to keep", keeps.keepers(0, 1), 3);
+        SandHouse one = houseOf("room bed 1;person 0;load 0 10;tool 0 100;keeps 0 50", "drop 100");
+        one.seed(seedWith(99));
+        due("KEEPS 100 keeps by a draw of 99", one.keepers(9, 1), 1);
+        one.seed(seedWith(0));
+        due("KEEPS 0 does not keep by a draw of 0", one.keepers(9, 1), 1);
+        due("the limit at most", one.keepers(10, 1), 0);
         SandHouse eight = houseOf("room bed 1;tool 0 100;" + times("person 0", 8, ";"), "drop 100");
         tell(eight, "load 7 5;load 6 5");
         due("one of the last two", eight.keepers(5, 1), 64);
@@ -465,7 +471,7 @@ public final class TrialEdgesTest extends Due {
         int least = 100;
         int most = 0;
         for (int seed = 1; seed <= 8; seed++) {
-            int draw = (int) ((1103515245L * seed + 12345 & 0xffffffffL) >> 16 & 32767) % 100;
+            int draw = drawOf(seed) % 100;
             least = Math.min(least, draw);
             most = Math.max(most, draw);
         }

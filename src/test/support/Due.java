@@ -244,6 +244,21 @@ abstract class Due {
         return out.toString();
     }
 
+    /** The first DRAW from a SEED, worked out without an int that goes round. */
+    static int drawOf(int seed) {
+        return (int) ((1103515245L * seed + 12345 & 0xffffffffL) >> 16 & 32767);
+    }
+
+    /** A SEED whose first DRAW is this one, modulo 100. */
+    static int seedWith(int draw) {
+        for (int seed = 1; seed < 1000000; seed++) {
+            if (drawOf(seed) % 100 == draw) {
+                return seed;
+            }
+        }
+        return 0;
+    }
+
     /** Three bytes of NOON. */
     static String told(int room, int round) {
         return "" + (char) (97 + room) + (char) (round >> 8) + (char) (round & 255);
