@@ -6,6 +6,7 @@ public final class MemoryEdgesTest extends Due {
         share();
         blame();
         itch();
+        asAllIsNow();
         ways();
         cross();
         noon();
@@ -136,6 +137,29 @@ public final class MemoryEdgesTest extends Due {
         }
         SandHouse last = houseOf(times("room bed 1", 12, ";") + ";person 0;sand 11 0 1");
         due("the twelfth", last.itch(0), 1 << 11);
+    }
+
+    private static void asAllIsNow() {
+        sentence(35, "WHOSE, SHARE, BLAME, ITCH as all is now, not as it was told");
+        SandHouse h = houseOf("room out 1;room stone 4;room bed 3;door 0 1;door 1 2;person 0 1 2 1;person 0;load 0 160;sand 1 1 240", "drop 50;sweep 50");
+        due("whose in the bed at first", h.whose(2), -1);
+        due("share on stone at first", h.share(1, 0), 0);
+        due("blame at first", h.blame(), -1);
+        due("itch at first", h.itch(39), 0);
+        h.rounds(2);
+        // 80 on stone, 40 in the bed
+        due("whose in the bed", h.whose(2), 0);
+        due("whose on stone", h.whose(1), 1);
+        due("share on stone", h.share(1, 0), 2500);
+        due("share of the other on stone", h.share(1, 1), 7500);
+        due("blame", h.blame(), 0);
+        due("itch by 39", h.itch(39), 4);
+        due("itch by 40", h.itch(40), 0);
+        h.sweep(2);
+        due("itch by 20, swept", h.itch(20), 0);
+        due("itch by 19, swept", h.itch(19), 4);
+        h.undo();
+        due("itch by 39, undone", h.itch(39), 4);
     }
 
     private static void ways() {

@@ -12,6 +12,7 @@ public final class RoundEdgesTest extends Due {
         draws();
         seeds();
         drops();
+        whoseFalls();
         wet();
         picks();
         lawByThen();
@@ -257,6 +258,19 @@ public final class RoundEdgesTest extends Due {
         due("the other's in the ROOM", each.sand(0, 1), 1);
     }
 
+    private static void whoseFalls() {
+        sentence(13, "(d) Of each one's grains in LOAD: they are of the same one in the ROOM");
+        SandHouse h = houseOf("room stone 1;room stone 1;person 0;person 1;load 0 30;load 1 6;sand 0 1 50",
+            "pick 100 if room + round < 1;drop 10 if room < 1 and round > 0");
+        h.rounds(1);
+        due("fell", h.rounds(1), 8);
+        due("own in LOAD", h.load(0, 0), 27);
+        due("the other's in LOAD", h.load(0, 1), 45);
+        due("own in the ROOM", h.sand(0, 0), 3);
+        due("the other's in the ROOM", h.sand(0, 1), 5);
+        due("the other one's LOAD", h.load(1, 1), 6);
+    }
+
     private static void wet() {
         sentence(13, "(d) If not WET; (f) WET is 1 less (0 at least)");
         int[][] cases = {{0, 50, 0}, {1, 0, 0}, {2, 0, 1}, {99, 0, 98}};
@@ -299,6 +313,12 @@ public final class RoundEdgesTest extends Due {
             h.rounds(1);
             due("LOAD of " + l[0], h.person(0, 1), l[1]);
             due("left by " + l[0], h.room(0, 3), l[2]);
+        }
+        for (int[] l : loads) {
+            SandHouse h = houseOf("room stone 1;room stone 1;room bed 1;person 1;person 2;sand 1 0 50;sand 1 1 50;sand 2 1 9;load 0 " + l[0], "pick 10 if room < 2");
+            h.rounds(1);
+            due("LOAD in another ROOM of " + l[0], h.person(0, 1), l[1]);
+            due("left in another ROOM by " + l[0], h.room(1, 3), l[2]);
         }
         sentence(13, "(e) those of (d), too");
         SandHouse too = houseOf("room stone 1;person 0;load 0 9999;sand 0 0 1", "drop 1;pick 100");

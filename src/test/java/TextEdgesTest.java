@@ -823,6 +823,16 @@ public final class TextEdgesTest extends Due {
             rule(h, "sweep 10 if " + fact);
             due("SWEEPS if " + fact, h.room(0, 6), 0);
         }
+        sentence(7, "SWEEPS now");
+        SandHouse now = houseOf("room stone 1;room bed 1;person 0;load 0 80", "drop 50;sweep 10 if here > 39;sweep 5 if round > 0;sweep 20 if part > 0");
+        due("SWEEPS ahead of a ROUND", now.room(0, 6), 0);
+        now.rounds(1);
+        due("SWEEPS behind a ROUND", now.room(0, 6), 15);
+        due("SWEEPS of the other behind a ROUND", now.room(1, 6), 5);
+        now.sweep(0);
+        due("SWEEPS behind a sweeping", now.room(0, 6), 5);
+        now.tool(1, 1);
+        due("SWEEPS with a TOOL", now.room(1, 6), 25);
         sentence(7, "SWEEPS without any PERSON");
         SandHouse alone = houseOf("room bed 1", "sweep 7 if person + load < 1 and not wet");
         due("SWEEPS", alone.room(0, 6), 7);

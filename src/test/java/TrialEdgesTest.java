@@ -6,6 +6,7 @@ public final class TrialEdgesTest extends Due {
     public static void main(String[] args) {
         trials();
         nothingStays();
+        fromNow();
         worth();
         stand();
         two();
@@ -92,6 +93,37 @@ public final class TrialEdgesTest extends Due {
         same("all behind what would be", before, state(h));
         due("acts", h.count(14), 2);
         due("rows", h.log(h.count(13) - 1, 0), 0);
+    }
+
+    private static void fromNow() {
+        sentence(19, "all goes on from now, not from the latest text");
+        SandHouse h = houseOf("room out 1;room stone 4;room bed 3;door 0 1;door 1 2;person 0 1 2 1;load 0 160", "drop 50;sweep 50");
+        h.rounds(2);
+        // 80 on stone, 40 in the bed, 40 in LOAD; then 20 on stone, 10 out, 5 on stone, 2 in the bed
+        due("in beds", h.trial(4, 0), 42);
+        due("in LOADS", h.trial(4, 2), 3);
+        due("chores by 100", h.chores(100, true), 4);
+        due("chores by 99", h.chores(99, true), 2);
+        due("chores by 79", h.chores(79, true), 6);
+        due("MINUTES of chores by 79", h.chores(79, false), 7);
+        due("often by 20", h.often(20, 1), 1);
+        due("often by 19", h.often(19, 1), -1);
+        due("when", h.when(42), 4);
+        due("fades", h.fades(60), 1);
+        due("later", h.later(2, 4), 4);
+        due("towel on stone", h.towel(0, 1, 4), 1);
+        due("towel out", h.towel(0, 0, 4), 1);
+        due("towel in the bed", h.towel(0, 2, 4), 0);
+        due("towelled", h.towelled(0, 4), 0);
+        due("peak", h.peak(4), 4);
+        due("span", h.span(4, false), 42);
+        due("worth", h.worth(2, 100, 4), 2);
+        due("stand", h.stand(100, 4, false), 0);
+        due("stand by all", h.stand(100, 4, true), 1);
+        due("two", h.two(100, 4), 3);
+        due("keepers", h.keepers(41, 4), -1);
+        h.tool(2, 100);
+        due("keepers with a TOOL", h.keepers(41, 4), 1);
     }
 
     private static void worth() {
@@ -344,6 +376,9 @@ public final class TrialEdgesTest extends Due {
         due("from now on", exact.clogs(), 1);
         exact.rounds(1);
         due("now", exact.clogs(), 0);
+        SandHouse swept = houseOf("room drain 1;room bed 1;person 1;sand 1 0 100;tool 1 50;load 0 100;clog 10", "sweep 50");
+        due("50 are swept", swept.sweep(1), 50);
+        due("what is GONE elsewhere does not clog", swept.clogs(), -1);
         due("without a drain", houseOf("room bed 1;person 0;clog 1").clogs(), -1);
         due("without a drain, CLOG 0", houseOf("room bed 1;person 0;clog 0").clogs(), 0);
     }
@@ -518,5 +553,8 @@ public final class TrialEdgesTest extends Due {
         due("the least fewer by 5", h.peak(5), 5);
         h.rounds(1);
         due("from now on", h.peak(1), 1);
+        SandHouse stone = houseOf("room bed 1;room stone 1;person 0;sand 1 0 500", "bring 10 if round < 1;bring 5 if round > 0;drop 100");
+        due("what lies on stone does not count", stone.peak(2), 1);
+        due("what lies on stone does not count by 100", stone.peak(100), 1);
     }
 }
