@@ -1401,6 +1401,7 @@ public final class SandHouse {
         private final Plan plan = new Plan();
         private final Grains grains = new Grains();
         private int wrong = NONE;
+        private int chosen = 0;
         private int number = 0;
         private int numberStart = 0;
 
@@ -1462,8 +1463,13 @@ public final class SandHouse {
             return takeNumber(t, 0, plan.rooms - 1);
         }
 
-        private boolean takePerson(Tape t) {
-            return takeNumber(t, 0, plan.people - 1);
+        /** One of so many ROOMS or PEOPLE, and a number that is told of it. */
+        private boolean takeTwo(Tape t, int choices, int most) {
+            if (!takeNumber(t, 0, choices - 1)) {
+                return false;
+            }
+            chosen = number;
+            return takeNumber(t, 0, most);
         }
 
         private boolean roomLine(Tape t) {
@@ -1490,18 +1496,14 @@ public final class SandHouse {
                 return refuse(t.start);
             }
             t.advance();
-            if (!takeRoom(t)) {
+            if (!takeTwo(t, plan.rooms, plan.rooms - 1)) {
                 return false;
             }
-            int one = number;
-            if (!takeRoom(t)) {
-                return false;
-            }
-            if (number == one) {
+            if (number == chosen) {
                 return refuse(numberStart);
             }
-            plan.near[one] |= 1 << number;
-            plan.near[number] |= 1 << one;
+            plan.near[chosen] |= 1 << number;
+            plan.near[number] |= 1 << chosen;
             plan.doors++;
             return true;
         }
@@ -1542,14 +1544,10 @@ public final class SandHouse {
 
         private boolean loadLine(Tape t) {
             t.advance();
-            if (!takePerson(t)) {
+            if (!takeTwo(t, plan.people, MOST_LOAD)) {
                 return false;
             }
-            int person = number;
-            if (!takeNumber(t, 0, MOST_LOAD)) {
-                return false;
-            }
-            grains.comeOnto(person, number);
+            grains.comeOnto(chosen, number);
             return true;
         }
 
@@ -1559,53 +1557,37 @@ public final class SandHouse {
                 return false;
             }
             int room = number;
-            if (!takePerson(t)) {
+            if (!takeTwo(t, plan.people, MOST_LOAD)) {
                 return false;
             }
-            int person = number;
-            if (!takeNumber(t, 0, MOST_LOAD)) {
-                return false;
-            }
-            grains.comeInto(room, person, number);
+            grains.comeInto(room, chosen, number);
             return true;
         }
 
         private boolean toolLine(Tape t) {
             t.advance();
-            if (!takeRoom(t)) {
+            if (!takeTwo(t, plan.rooms, 100)) {
                 return false;
             }
-            int room = number;
-            if (!takeNumber(t, 0, 100)) {
-                return false;
-            }
-            grains.part[room] = number;
+            grains.part[chosen] = number;
             return true;
         }
 
         private boolean keepsLine(Tape t) {
             t.advance();
-            if (!takePerson(t)) {
+            if (!takeTwo(t, plan.people, 100)) {
                 return false;
             }
-            int person = number;
-            if (!takeNumber(t, 0, 100)) {
-                return false;
-            }
-            grains.keeps[person] = number;
+            grains.keeps[chosen] = number;
             return true;
         }
 
         private boolean wetLine(Tape t) {
             t.advance();
-            if (!takePerson(t)) {
+            if (!takeTwo(t, plan.people, 99)) {
                 return false;
             }
-            int person = number;
-            if (!takeNumber(t, 0, 99)) {
-                return false;
-            }
-            grains.wet[person] = number;
+            grains.wet[chosen] = number;
             return true;
         }
 
