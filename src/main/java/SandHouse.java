@@ -900,7 +900,6 @@ public final class SandHouse {
                 kind[lines] = lineKind;
                 amount[lines] = lineAmount;
                 from[lines] = length;
-                to[lines] = length;
             }
         }
 

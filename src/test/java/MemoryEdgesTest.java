@@ -21,6 +21,7 @@ public final class MemoryEdgesTest extends Due {
         forgotten();
         image();
         imageOfAll();
+        lastOfAll();
         counts();
         finish();
     }
@@ -676,6 +677,38 @@ public final class MemoryEdgesTest extends Due {
         refused("the thirteenth", UNSUPPORTED, texts::house);
         texts.back();
         due("the twelfth again", tell(texts, ""), 12);
+    }
+
+    private static void changeLast(SandHouse h) {
+        h.tool(11, 60);
+        h.keep(7, 61);
+        h.soak(7, 62);
+        h.beat(7);
+        h.sweep(11);
+    }
+
+    private static void dueLast(String when, SandHouse h) {
+        due("PART " + when, h.room(11, 2), 3);
+        due("KEEPS " + when, h.person(7, 2), 4);
+        due("WET " + when, h.person(7, 3), 5);
+        due("LOAD " + when, h.load(7, 7), 60);
+        due("in the ROOM " + when, h.sand(11, 7), 70);
+    }
+
+    private static void lastOfAll() {
+        sentence(46, "all is as ahead of it: the eighth PERSON's, in the twelfth ROOM, too");
+        SandHouse h = full("bed", "tool 11 3;keeps 7 4;wet 7 5;load 7 60;sand 11 7 70", "sweep 50");
+        changeLast(h);
+        due("it was swept", h.sand(11, 7), 35);
+        for (int i = 0; i < 5; i++) {
+            h.undo();
+        }
+        dueLast("undone", h);
+        sentence(48, "of all: the eighth PERSON's, in the twelfth ROOM, too");
+        h.image();
+        changeLast(h);
+        h.back();
+        dueLast("gone back to", h);
     }
 
     private static void counts() {

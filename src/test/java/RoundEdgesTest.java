@@ -25,6 +25,8 @@ public final class RoundEdgesTest extends Due {
         keepsTold();
         soaking();
         actsThatChangeNothing();
+        lastOfAll();
+        lastPicks();
         books();
         finish();
     }
@@ -517,6 +519,54 @@ public final class RoundEdgesTest extends Due {
             due("acts left", h.count(14), i);
         }
         due("undo of none", h.undo(), false);
+    }
+
+    private static void lastOfAll() {
+        sentence(13, "each PERSON, each one's grains: the eighth, in the twelfth ROOM");
+        SandHouse falls = full("stone", "load 7 1000;sand 11 7 50", "drop 10");
+        due("fell", falls.rounds(1), 100);
+        due("in LOAD", falls.load(7, 7), 900);
+        due("in the ROOM", falls.sand(11, 7), 150);
+        due("who, by THE LOG", falls.log(0, 1), 7);
+        due("the ROOM, by THE LOG", falls.log(0, 2), 11);
+        SandHouse brought = full("stone", "", "bring 7 if room > 10");
+        brought.rounds(1);
+        due("brought", brought.load(7, 7), 7);
+        due("brought by all", brought.count(7), 7);
+        SandHouse taken = full("stone", "load 7 1000;tool 11 30", "");
+        taken.rounds(1);
+        due("left by a TOOL", taken.load(7, 7), 700);
+        due("GONE by a TOOL", taken.count(8), 300);
+        SandHouse drained = full("drain", "sand 11 7 55", "");
+        drained.rounds(1);
+        due("left by a drain", drained.sand(11, 7), 50);
+        due("DRAINED", drained.count(10), 5);
+        sentence(14, "each one's grains: the eighth's, in the twelfth ROOM");
+        SandHouse swept = full("bed", "sand 11 7 50;sand 11 6 9;sand 10 7 9", "sweep 40");
+        due("swept", swept.sweep(11), 23);
+        due("left by sweeping", swept.sand(11, 7), 30);
+        due("left by sweeping, of another one", swept.sand(11, 6), 6);
+        due("left in another ROOM", swept.sand(10, 7), 9);
+        sentence(15, "each one's grains in LOAD: the eighth's");
+        SandHouse beaten = full("bed", "load 7 51;load 6 9", "");
+        due("beaten out", beaten.beat(7), 25);
+        for (int whose = 0; whose < 8; whose++) {
+            due("left in LOAD of " + whose, beaten.load(7, whose), whose == 7 ? 26 : 0);
+        }
+        due("left in another LOAD", beaten.load(6, 6), 9);
+    }
+
+    private static void lastPicks() {
+        sentence(13, "(e) if LOAD is 9999 at most by all these: the eighth's, too, in the twelfth ROOM");
+        for (int whose = 0; whose < 8; whose++) {
+            for (int load = 9994; load <= 9996; load++) {
+                SandHouse h = full("bed", "load 7 " + load + ";sand 11 " + whose + " 40", "pick 10");
+                h.rounds(1);
+                int picked = load < 9996 ? 4 : 0;
+                due("LOAD of " + load + " and 4 of " + whose, h.person(7, 1), load + picked);
+                due("left by " + load + " of " + whose, h.sand(11, whose), 40 - picked);
+            }
+        }
     }
 
     private static void books() {

@@ -18,6 +18,8 @@ public final class TextEdgesTest extends Due {
         atFirst();
         loads();
         blanksAndWords();
+        nearlyWords();
+        fullTapes();
         emptyTexts();
         firstWrongOfTheHouse();
         nothingStays();
@@ -333,6 +335,22 @@ public final class TextEdgesTest extends Due {
         }
     }
 
+    /** With more PEOPLE than ROOMS a number may tell one of those and yet none of these. */
+    private static void numbersOfFewRooms() {
+        String few = "room bed 1;person 0;person 0;person 0";
+        sentence(6, "R: a ROOM (there are fewer than PEOPLE)");
+        wrongAt(few, "sand ^1 0 5");
+        wrongAt(few, "sand ^2 0");
+        wrongAt(few, "tool ^1 5");
+        wrongAt(few, "door ^1 0");
+        wrongAt(few, "door 0 ^2");
+        wrongAt(few, "person ^1");
+        wrongAt(few, "person 0 ^2");
+        sentence(6, "P: a PERSON (there are more than ROOMS)");
+        rightHouse(few, "sand 0 2 5;load 2 5;keeps 2 5;wet 2 5");
+        wrongAt(few, "sand 0 ^3 5");
+    }
+
     private static void numbersOfTheHouse() {
         sentence(6, "N of room: MINUTES 1 to 99");
         bound("room drain ", 1, 99, "");
@@ -359,6 +377,7 @@ public final class TextEdgesTest extends Due {
         bound("wet 1 ", 0, 99, "");
         sentence(6, "clog N: 0 to 99999");
         bound("clog ", 0, 99999, "");
+        numbersOfFewRooms();
         SandHouse h = houseOf("room out 1;room drain 99;person 1;tool 0 1;tool 1 100;keeps 0 0;wet 0 99;clog 99999;sand 1 0 9999;load 0 9999");
         sentence(4, "what is told at the bounds");
         due("MINUTES 1", h.room(0, 1), 1);
@@ -494,6 +513,79 @@ public final class TextEdgesTest extends Due {
         rightHouse(THREE, "door0 01;person0 1;load0 5;sand0 0 5;tool0 5;keeps0 5;wet0 5;clog5");
     }
 
+    /** A word with a letter less or more at either end is none. */
+    private static String[] nearly(String word) {
+        String first = word.substring(0, 1);
+        String last = word.substring(word.length() - 1);
+        return new String[] {word.substring(1), word.substring(0, word.length() - 1), first + word, word + last, word + first, word + word};
+    }
+
+    private static void nearlyWords() {
+        sentence(6, "a word that is none");
+        for (String word : "room door person load sand tool keeps wet clog".split(" ")) {
+            for (String none : nearly(word)) {
+                wrongAt(THREE, "clog 5;^" + none + " 0 0 1");
+            }
+        }
+        for (String word : "out stone carpet bed drain".split(" ")) {
+            for (String none : nearly(word)) {
+                wrongAt(THREE, "room ^" + none + " 1");
+                wrongLawAt("drop 1 if ^" + none);
+            }
+        }
+        for (String word : "bring drop pick sweep".split(" ")) {
+            for (String none : nearly(word)) {
+                wrongLawAt("drop 1;^" + none + " 1");
+            }
+        }
+        for (String none : nearly("if")) {
+            wrongLawAt("drop 1 ^" + none + " bed");
+        }
+        for (String word : "and or".split(" ")) {
+            for (String none : nearly(word)) {
+                wrongLawAt("drop 1 if bed ^" + none + " bed");
+            }
+        }
+        for (String none : nearly("not")) {
+            wrongLawAt("drop 1 if ^" + none + " bed");
+        }
+        for (String none : nearly("wet")) {
+            wrongLawAt("drop 1 if ^" + none);
+        }
+        for (String word : "person room load here round part".split(" ")) {
+            for (String none : nearly(word)) {
+                wrongLawAt("drop 1 if ^" + none + " < 1");
+                wrongLawAt("drop 1 if 1 < ^" + none);
+            }
+        }
+    }
+
+    /** A text of 400 bytes, with blanks ahead of its last thing. */
+    private static String padded(String ahead, String last) {
+        return ahead + times(" ", 400 - ahead.length() - last.length(), "") + last;
+    }
+
+    private static void fullTapes() {
+        sentence(6, "Words at the end of 400 bytes");
+        wrongHouse("", padded("room", "be"), 398);
+        wrongHouse("", padded("room", "bed"), 400);
+        wrongHouse("", padded("room", "bedr"), 396);
+        wrongHouse("", padded("clog 1;", "roo"), 397);
+        wrongHouse("", padded("clog 1;", "room"), 400);
+        rightHouse("", padded("room bed", "1"));
+        wrongHouse("", padded("room bed", "1;"), 400);
+        rightLaw(padded("drop 1 if", "bed"), 1);
+        wrongLaw(padded("drop 1 if", "be"), 398);
+        wrongLaw(padded("drop 1 if", "perso"), 395);
+        wrongLaw(padded("drop 1 if", "person"), 400);
+        rightLaw(padded("drop 1 if 1 <", "person"), 1);
+        wrongLaw(padded("drop 1 if", "no"), 398);
+        wrongLaw(padded("drop 1 if", "not"), 400);
+        wrongLaw(padded("drop 1", "i"), 399);
+        wrongLaw(padded("drop 1", "if"), 400);
+        rightLaw(padded("drop 1 if (wet", ")"), 1);
+    }
+
     private static void emptyTexts() {
         sentence(4, "A text that is empty, or blanks alone, has no LINE");
         SandHouse h = new SandHouse();
@@ -575,6 +667,11 @@ public final class TextEdgesTest extends Due {
         due("law", rule(h, "drop 3;bring 4"), 2);
         due("DROPS of the latter", h.rule(0, 0, 1), 3);
         due("LINES of the latter", h.count(4), 2);
+        sentence(12, "the sum of N of all LINES that hold: of the twelfth, too, by its own condition");
+        String eleven = times("drop 1 if room < 9", 11, ";");
+        due("the twelfth holds", houseOf(THREE, eleven + ";drop 5 if room < 9").rule(0, 0, 1), 16);
+        due("the twelfth does not hold", houseOf(THREE, eleven + ";drop 5 if room > 9").rule(0, 0, 1), 11);
+        due("it alone holds", houseOf(THREE, times("drop 1 if room > 9", 11, ";") + ";drop 5 if room < 9").rule(0, 0, 1), 5);
     }
 
     private static void numberOfLaw(String before, String behind) {

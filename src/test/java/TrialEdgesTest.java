@@ -7,6 +7,7 @@ public final class TrialEdgesTest extends Due {
         trials();
         nothingStays();
         fromNow();
+        fromNowOfAll();
         worth();
         stand();
         two();
@@ -93,6 +94,19 @@ public final class TrialEdgesTest extends Due {
         same("all behind what would be", before, state(h));
         due("acts", h.count(14), 2);
         due("rows", h.log(h.count(13) - 1, 0), 0);
+    }
+
+    private static void fromNowOfAll() {
+        sentence(19, "all goes on from now: the eighth PERSON's, in the twelfth ROOM, too");
+        SandHouse tool = full("bed", "load 7 100;tool 11 50", "");
+        due("GONE by a TOOL", tool.trial(1, 3), 50);
+        tool.keep(7, 0);
+        due("GONE without keeping", tool.trial(1, 3), 0);
+        SandHouse wet = full("bed", "load 7 100;sand 11 7 8", "drop 10");
+        due("in beds", wet.trial(1, 0), 18);
+        wet.soak(7, 1);
+        due("in beds, WET", wet.trial(1, 0), 8);
+        due("in beds, dry again", wet.trial(2, 0), 18);
     }
 
     private static void fromNow() {

@@ -173,6 +173,15 @@ abstract class Due {
         return h;
     }
 
+    /** Twelve ROOMS, the last of a told SORT, and eight PEOPLE: seven stay in the first ROOM, the last one in the last. */
+    static SandHouse full(String sort, String more, String law) {
+        SandHouse h = houseOf(times("room stone 1", 11, ";") + ";room " + sort + " 1");
+        tell(h, times("person 0", 7, ";") + ";person 11");
+        tell(h, more);
+        rule(h, law);
+        return h;
+    }
+
     static int tell(SandHouse h, String text) {
         tape(h, text);
         return h.house();
